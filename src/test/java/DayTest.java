@@ -54,11 +54,13 @@ public final class DayTest {
         Due.is("sheet", x.sheet(0, Due.BYTES, 0), 1);
         Due.is("no codes", x.tuesday(0, Due.BYTES, 0, 0), -100);
         for (int n = 1; n < WHOLE.length(); n++) {
+            x = new SameTuesday();
             boolean whole = n == 7 || n == 13 || n == 19 || n == 24;
             int due = n == 7 ? 1 : n == 13 ? 2 : n == 19 || n == 24 ? 3 : -100 - n;
             Due.is("the first " + n + (whole ? " codes, a whole text" : " codes"),
                 Due.text(x, WHOLE.substring(0, n)), due);
         }
+        x = new SameTuesday();
         Due.is("a deed, no happening", Due.text(x, "s,6123"), -101);
         Due.is("another first code", Due.text(x, "h;h0000"), -100);
         Due.is("no ; ahead", Due.text(x, "sh0000"), -101);
@@ -78,9 +80,9 @@ public final class DayTest {
         String[] fits = {"s", ";", "hmc", "012345", "0123456789", "0123456", "012345",
             ",", "0123456", "012345", "0123456", "123456789"};
         String text = "s;h0000,0001";
-        SameTuesday x = new SameTuesday();
-        Due.write(x, 0, Due.SHORTS, text);
         for (int place = 0; place < fits.length; place++) {
+            SameTuesday x = new SameTuesday();
+            Due.write(x, 0, Due.SHORTS, text);
             for (int code = 40; code < 128; code++) {
                 x.put(0, place, code);
                 int due = fits[place].indexOf(code) >= 0 ? 1 : -100 - place;
@@ -88,14 +90,9 @@ public final class DayTest {
                 int got = x.tuesday(0, Due.SHORTS, 0, text.length());
                 Due.is("code " + code + " at " + place, got, place == 7 && code == ';' ? -108 : due);
             }
-            x.put(0, place, text.charAt(place));
-            if (place % 5 == 4) {
-                x = new SameTuesday();
-                Due.write(x, 0, Due.SHORTS, text);
-            }
         }
         int[] far = {-1, 115 + 256, 115 + 65536, 115 - 256, Integer.MIN_VALUE, Integer.MAX_VALUE};
-        x = new SameTuesday();
+        SameTuesday x = new SameTuesday();
         Due.write(x, 0, Due.INTS, text);
         for (int code : far) {
             x.put(0, 0, code);

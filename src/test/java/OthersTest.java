@@ -126,6 +126,7 @@ public final class OthersTest {
         asHangs(x, "too many", 0, 1, 0, 3, Due.INDEX, 3);
         asHangs(x, "beyond", 0, 1, 5, 0, Due.INDEX, 3);
         asHangs(x, "no tuesday", 0, 1, 0, 1, -3, 0);
+        Due.fault("a fault", x, x.others(0, 0, 0, 0, 0, 0), Due.CAST, 2);
         Due.fault("k", x, x.others(64, -2, 4, 3, 0, 99), -1, 0);
         Due.fault("k", x, x.others(0, -2, 0, 0, 0, 0), -1, 0);
         Due.fault("sheet ahead of set", x, x.others(64, 0, 4, 0, 0, 0), -1, 0);

@@ -5,14 +5,20 @@ final class Due {
 
     private static int wrong = 0;
     private static int asked = 0;
+    private static String by = "";
 
     private Due() { }
+
+    /** By which words of the document the answers from here on are due; promise 0 stands for its Terms. */
+    static void sentence(int promise, String words) {
+        by = (promise == 0 ? "Terms" : "Promise " + promise) + ", \"" + words + "\": ";
+    }
 
     static void is(String call, long got, long want) {
         asked++;
         if (got != want) {
             wrong++;
-            System.out.println(call + " answered " + got + ", due is " + want);
+            System.out.println(by + call + " answered " + got + ", due is " + want);
         }
     }
 

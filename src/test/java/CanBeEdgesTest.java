@@ -10,6 +10,8 @@ public final class CanBeEdgesTest {
         anyDeeds();
         moreDeedsThanARowHas();
         waiting();
+        begunInOneMinuteAlone();
+        orderWithinAMinute();
         soonestOfNoneAndAll();
         soonestInTheFirstAndTheLast();
         soonestNever();
@@ -126,6 +128,39 @@ public final class CanBeEdgesTest {
         Due.is("done too soon", x.can(31, 0), 1);
         Due.is("by it another one, then it is gone", x.can(31, 4), 1);
         Due.is("and it again", x.can(31, 6), 1);
+    }
+
+    /** The NEED is met in 10 alone, so that a DEED of any number ends in 10 and its LONG, and in no other MINUTE. */
+    private static void begunInOneMinuteAlone() {
+        Due.sentence(0, "A DEED begun in a MINUTE b ends in b and LONG.");
+        String[] ahead = {"", ",5261", ",5261,5262", ",5261,5262,5269", ",5261,5262,5269,5268"};
+        for (int lasts = 1; lasts <= 9; lasts++) {
+            for (String deeds : ahead) {
+                int ends = 10 + lasts;
+                SameTuesday x = Due.of("s;h1060;m1160;m" + (ends + 1) + "61" + deeds + ",016" + lasts);
+                String what = "long " + lasts + deeds;
+                Due.is(what + ", soonest", x.soonest(2), ends);
+                Due.is(what + ", a minute later", x.can(ends + 1, 2), 0);
+                Due.is(what + ", two minutes later", x.can(ends + 2, 2), 0);
+                Due.is(what + ", as the day ends", x.can(59, 2), 0);
+            }
+        }
+    }
+
+    private static void orderWithinAMinute() {
+        Due.sentence(0, "a DEED that ends in it (its FACT becomes so, then the one it UNDOES not so); then one may begin");
+        SameTuesday x = Due.of("s;m0360;h0301,6063,1261");
+        Due.is("it ends behind the mishap", x.can(3, 1), 1);
+        Due.is("and behind the happening that needs it", x.can(3, 3), 0);
+        Due.is("so that this never comes about", x.soonest(2), -9);
+        x.shift(1, 4);
+        Due.is("a minute later it does", x.soonest(2), 4);
+        Due.is("and one may begin in that minute", x.soonest(4), 5);
+        x = Due.of("s;h5965,6001,6011,0261,1361");
+        Due.is("what it undoes is undone behind its fact", x.soonest(1), 1);
+        x = Due.of("s;h5965,6001,0261");
+        Due.is("its own fact, too", x.soonest(1), -9);
+        Due.is("so that the next has no need met", x.soonest(4), -9);
     }
 
     private static void soonestOfNoneAndAll() {

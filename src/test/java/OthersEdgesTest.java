@@ -161,6 +161,11 @@ public final class OthersEdgesTest {
         Due.is("as long as it is met", Due.others(x, 2, -1), 10);
         Due.is("from then on", Due.others(x, 2, 0), 100);
         Due.is("until then", Due.others(x, 2, 9), 190);
+        x = Due.of("s;h5965,6063,0161");
+        Due.is("it does one alone: none has met the need of that", Due.others(x, 34, -1), 0);
+        Due.is("nor both", Due.others(x, 35, -1), 0);
+        x = Due.of("s;h5965,0161,6061");
+        Due.is("nor by one of a lesser number", Due.others(x, 34, -1), 0);
         x = Due.of("s;h5965,6063,0161,6204");
         Due.is("from his end on", Due.others(x, 35, 0, 10, 0), 131);
         Due.is("all from then on", Due.others(x, 35, -1, 10, 0), 46);

@@ -31,6 +31,7 @@ public final class RowEdgesTest {
         whatIsAsked();
         at();
         atTheLastOne();
+        atInTheMidst();
         hangsOnNoneAndAll();
         hangsAlone();
         hangsByTheRow();
@@ -334,6 +335,10 @@ public final class RowEdgesTest {
         Due.is("falling, all but the first are left out", Due.ends(x, 30, 0, 20, 1, 10, 2), 34);
         Due.is("all in minute 0", Due.ends(x, 0, 0, 0, 1, 0, 2), 34);
         Due.is("the third is the first that is not above", Due.wrong(x, 5, 0, 30, 1, 29, 2), 2);
+        Due.is("as great as one that is left out", Due.ends(x, 59, 0, 20, 1, 59, 2, 21, 2), 32);
+        x = Due.of("s;h5965,0161,6261");
+        Due.is("as great as one ahead, whose need is not met", Due.ends(x, 20, 0, 20, 1), 32);
+        Due.is("below one ahead, whose need is not met", Due.ends(x, 20, 0, 19, 1), 32);
     }
 
     private static void leftOutOneAfterAnother() {
@@ -443,6 +448,19 @@ public final class RowEdgesTest {
         Due.is("a deed that would end in 10", Due.at(x, 59, 7, 0), 3);
         x.minutes(60);
         Due.is("10 of a longer day", Due.at(x, 10, 7, 0), 15);
+    }
+
+    private static void atInTheMidst() {
+        Due.sentence(8, "by such a ROW, as ENDS, as a set");
+        SameTuesday x = Due.of("s;h5965,6169,6261");
+        Due.is("as his deed goes on", Due.at(x, 12, 5, 0), 0);
+        Due.is("it does not go on in another day", Due.ends(x), 32);
+        Due.is("as his deed goes on", Due.at(x, 12, 5, 0), 0);
+        Due.is("nor bars a deed of it", Due.wrong(x, 0, 1), -9);
+        Due.is("as his deed goes on", Due.at(x, 12, 5, 0), 0);
+        Due.is("nor a deed of the other one", Due.others(x, 36, -1), 59);
+        Due.is("a wrong pair behind the minute asked", Due.at(x, 3, 2, 1, 55, 0), 4);
+        Due.is("none is wrong in another row", Due.wrong(x, 2, 1), -9);
     }
 
     private static void hangsOnNoneAndAll() {

@@ -39,6 +39,9 @@ public final class TextEdgesTest {
     }
 
     private static void newObject() {
+        SameTuesday another = Due.of(SIX_AND_FOUR);
+        another.tell(0);
+        another.day(5);
         SameTuesday x = new SameTuesday();
         Due.sentence(1, "No TUESDAY (no HAPPENINGS), SHEETS have nothing.");
         for (int what = 0; what < 4; what++) {
@@ -54,6 +57,10 @@ public final class TextEdgesTest {
             Due.is("lose, sheet " + k, x.lose(k), 0);
         }
         Due.is("trace", x.trace(), 0);
+        Due.text(x, "s;c0760");
+        Due.is("the other one has its own happenings", another.many(0), 6);
+        Due.is("and its own trace", another.trace(), 1);
+        Due.is("and its own days", another.many(3), 1);
     }
 
     private static void howManyParts() {

@@ -35,6 +35,15 @@ public final class FaceTest {
         Due.is("LOST", SameTuesday.LOST, Long.MIN_VALUE);
     }
 
+    /** The names of the document's calls. */
+    static Set<String> names() {
+        Set<String> names = new TreeSet<>();
+        for (String method : METHODS) {
+            names.add(method.substring(method.indexOf(' ') + 1, method.indexOf('(')));
+        }
+        return names;
+    }
+
     private static String told(Method method) {
         StringBuilder told = new StringBuilder(method.getReturnType() + " " + method.getName() + "(");
         for (Class<?> type : method.getParameterTypes()) {

@@ -15,7 +15,6 @@ public final class LivedTest {
         lanes();
         refusals();
         refusedRowsChangeNothing();
-        asReadmeTells();
         Due.end();
     }
 
@@ -260,13 +259,5 @@ public final class LivedTest {
         Due.is("its cells stay", x.cell(1, 0, 2), 70);
         Due.is("a row behind a refused one", Due.ends(x, 20, 0), 3);
         Due.is("no row behind it", Due.ends(x), 1);
-    }
-
-    private static void asReadmeTells() {
-        SameTuesday x = new SameTuesday();
-        Due.is("two happenings", Due.text(x, "s;h0360;m1001,6163"), 2);
-        Due.is("no wrong one", Due.wrong(x, 8, 0), -9);
-        Due.is("facts 0 and 1", Due.ends(x, 8, 0), 3);
-        Due.is("soonest", x.soonest(2), 3);
     }
 }

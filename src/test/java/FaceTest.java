@@ -1,11 +1,19 @@
+import java.io.IOException;
 import java.lang.reflect.Constructor;
 import java.lang.reflect.Field;
 import java.lang.reflect.Method;
 import java.lang.reflect.Modifier;
+import java.nio.file.Files;
+import java.nio.file.Path;
 import java.util.Set;
 import java.util.TreeSet;
+import java.util.regex.Matcher;
+import java.util.regex.Pattern;
 
-/** The public face: just the constants, the constructor and the methods of the document. */
+/**
+ * The public face: just the constants, the constructor and the methods of the document. Run from the project's
+ * folder.
+ */
 public final class FaceTest {
     private static final String[] METHODS = {
         "int tuesday(int,int,int,int)", "int ofHappening(int,int)", "int ofDeed(int,int)", "int minutes(int)",
@@ -18,12 +26,28 @@ public final class FaceTest {
     };
     private static final Set<String> CONSTANTS = Set.of("UNKNOWN", "OUTSIDE", "STATE", "FULL", "NONE", "LOST");
 
-    public static void main(String[] args) {
+    public static void main(String[] args) throws IOException {
+        document();
         constants();
         methods();
         fields();
         classes();
         Due.end();
+    }
+
+    /** What stands here as the face stands in the document. */
+    private static void document() throws IOException {
+        String document = Files.readString(Path.of("../shared/DOC.md"));
+        String face = document.substring(document.indexOf("```java"), document.indexOf("## Terms"));
+        Matcher call = Pattern.compile("public (int|long) (\\w+)\\((.*)\\);").matcher(face);
+        Set<String> found = new TreeSet<>();
+        while (call.find()) {
+            String types = call.group(3).replaceAll("int \\w+", "int").replace(" ", "");
+            found.add(call.group(1) + " " + call.group(2) + "(" + types + ")");
+        }
+        Due.holds("the document's calls: " + found, found.equals(Set.of(METHODS)));
+        Due.holds("its constants", face.contains("int UNKNOWN = -1, OUTSIDE = -2, STATE = -3, FULL = -4, NONE = -9;")
+            && face.contains("long LOST = Long.MIN_VALUE;"));
     }
 
     private static void constants() {

@@ -2,20 +2,26 @@ import java.io.IOException;
 import java.nio.file.DirectoryStream;
 import java.nio.file.Files;
 import java.nio.file.Path;
-import java.util.TreeSet;
+import java.util.ArrayList;
+import java.util.List;
+import java.util.Map;
+import java.util.TreeMap;
 import java.util.regex.Matcher;
 import java.util.regex.Pattern;
 
 /**
- * The sentences that the tests of the edges name stand in the document, in the promise that is told with them,
- * and each promise has one. Run from the project's folder.
+ * The sentences that the tests of the edges name stand in the document, in the promise that is told with them, and
+ * no words of the Terms or of a promise are left that none of them names. Run from the project's folder.
  */
 public final class SentencesTest {
     private static final Pattern NAMED = Pattern.compile("Due\\.sentence\\((\\d+), \"([^\"]*)\"\\);");
     private static final int PROMISES = 30;
+    /** What is no sentence: headings, fences, numbers of the Terms' parts, a promise's call ahead of its words. */
+    private static final Pattern FRAME = Pattern.compile("(?m)^(?:## .*|```.*|==== \\d |`[^`]*\\)`: )");
+
+    private static final Map<Integer, List<String>> SENTENCES = new TreeMap<>();
 
     public static void main(String[] args) throws IOException {
-        TreeSet<Integer> promises = new TreeSet<>();
         int calls = 0;
         int named = 0;
         try (DirectoryStream<Path> tests = Files.newDirectoryStream(Path.of("src/test/java"), "*EdgesTest.java")) {
@@ -26,33 +32,37 @@ public final class SentencesTest {
                 while (sentence.find()) {
                     named++;
                     int promise = Integer.parseInt(sentence.group(1));
-                    promises.add(promise);
-                    stands(test, promise, sentence.group(2));
+                    SENTENCES.computeIfAbsent(promise, none -> new ArrayList<>()).add(sentence.group(2));
                 }
             }
         }
         Due.holds("sentences are named", named > 100);
         Due.is("each is written so that it is found here", named, calls);
+        String document = Files.readString(Path.of("../shared/DOC.md"));
         for (int promise = 0; promise <= PROMISES; promise++) {
-            Due.holds("a sentence of promise " + promise + " is named", promises.contains(promise));
+            compare(promise, part(document, promise), SENTENCES.getOrDefault(promise, List.of()));
         }
         Due.end();
     }
 
-    private static void stands(Path test, int promise, String words) throws IOException {
-        String part = part(promise);
-        Due.holds(test.getFileName() + ": promise " + promise + " says " + words, part == null || part.contains(words));
+    private static void compare(int promise, String part, List<String> sentences) {
+        StringBuilder left = new StringBuilder(FRAME.matcher(part).replaceAll(frame -> "\n".repeat(frame.group().length())));
+        for (String words : sentences) {
+            int from = part.indexOf(words);
+            Due.holds("promise " + promise + " says " + words, from >= 0);
+            for (int i = Math.max(from, 0); i < from + words.length(); i++) {
+                left.setCharAt(i, '\n');
+            }
+        }
+        String words = left.toString().replaceAll("[^\\w]*\n[^\\w]*", "\n").strip();
+        Due.holds("promise " + promise + " says, and no test names it: " + words, words.isEmpty());
     }
 
-    /** A promise's part of the document, its Terms for 0; null, if the document is not here. */
-    private static String part(int promise) throws IOException {
-        Path path = Path.of("../shared/DOC.md");
-        if (!Files.exists(path)) {
-            return null;
-        }
-        String doc = Files.readString(path);
-        int from = doc.indexOf(promise == 0 ? "## Terms" : "## Promise " + promise + ":");
-        int to = doc.indexOf("\n## ", from + 1);
-        return from < 0 || to < 0 ? "" : doc.substring(from, to);
+    /** A promise's part of the document, its Terms for 0. */
+    private static String part(String document, int promise) {
+        int from = document.indexOf(promise == 0 ? "## Terms" : "## Promise " + promise + ":");
+        int to = document.indexOf("\n## ", from + 1);
+        Due.holds("the document has promise " + promise, from >= 0 && to > from);
+        return from >= 0 && to > from ? document.substring(from, to) : "";
     }
 }

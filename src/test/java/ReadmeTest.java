@@ -36,6 +36,9 @@ public final class ReadmeTest {
         for (String name : SHOWN) {
             Due.holds("the example has " + name, calls.contains(name));
         }
+        for (String name : FaceTest.names()) {
+            Due.holds("README.md lists " + name, readme.contains("`" + name + "("));
+        }
         for (String words : TOLD) {
             Due.holds("README.md tells of " + words, readme.contains(words));
         }

@@ -80,10 +80,11 @@ public final class TwinTest {
         String told = "run " + seed + ", call " + calls + ", " + name + Arrays.toString(numbers);
         long due = answer(OF_TWIN.get(name), twin, given);
         long got = answer(OF_CLASS.get(name), x, given);
-        Due.is(told, got, due);
-        Due.is("fault() after " + told, x.fault(), twin.fault());
+        int fault = x.fault();
         calls += 2;
-        same = got == due && x.fault() == twin.fault();
+        Due.is(told, got, due);
+        Due.is("fault() after " + told, fault, twin.fault());
+        same = got == due && fault == twin.fault();
         boolean isRefused = due == SameTuesday.LOST || due < 0 && due != SameTuesday.NONE && !name.equals("cell");
         ANSWERED.merge(isRefused ? name + " refused" : name, 1, Integer::sum);
         return due;
